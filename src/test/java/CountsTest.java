@@ -95,6 +95,8 @@ public final class CountsTest {
         checks.due("bring(15, 8): deal", 1, x.bring(15, 8));
         checks.due("bring(0, 2): in, out", 2, x.bring(0, 2));
         checks.due("bring(0, 15): in, deal", 2, x.bring(0, 15));
+        checks.due("bring(1, 0): out, deal, fold by 8", 3, x.bring(1, 0));
+        checks.due("bring(15, 0): deal, in", 2, x.bring(15, 0));
         x.go(0, 5, true);
         checks.due("bring(5, 0) after a cut by 5", 0, x.bring(5, 0));
         checks.due("bring(5, 7) after a cut by 5", 1, x.bring(5, 7));

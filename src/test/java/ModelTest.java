@@ -1,32 +1,36 @@
-/** All promises: long mixed runs answer as the model does, call for call, wrong inputs among them. */
+import java.lang.reflect.InvocationTargetException;
+import java.lang.reflect.Method;
+
+/** All promises: mixed runs answer as the model does, call for call, wrong inputs among them. */
 public final class ModelTest {
     private static final int RUNS = 400;
-    private static final int CALLS = 512;
-    private static final int KINDS_OF_CALLS = 21;
+    private static final int CALLS_OF_A_RUN = 250;
     private static final int[] WILD = {-1, 4, 5, 6, 7, 16, 17, -16, 32, Integer.MIN_VALUE, Integer.MAX_VALUE};
+
+    /** Each call by its name and, for each argument, the bound of the usual numbers. */
+    private static final Object[][] CALLS = {
+        {"go", 5, 17, 2}, {"go", 5, 1, 2}, {"falseCut", 16}, {"comes", 5, 17, 16}, {"comes", 5, 1, 16},
+        {"card", 16}, {"find", 16}, {"watch", 2}, {"glimpse", 4, 16}, {"thinks", 4, 16}, {"sure", 4, 16},
+        {"watcher", 4, 6}, {"sit", 16}, {"fan", 16}, {"take", 4}, {"force", 4, 16}, {"took", 4},
+        {"count", 7}, {"back", 5, 17}, {"back", 5, 1}, {"bring", 16, 16}, {"riffles", 16, 16}, {"mean"}, {"digest"},
+    };
+    private static final Object[] GLIMPSE = {"glimpse", 4, 16};
 
     private static long drawn = 20261119L;
 
-    public static void main(String[] args) {
+    public static void main(String[] args) throws ReflectiveOperationException {
         Checks checks = new Checks("ModelTest");
         for (int run = 0; run < RUNS; run++) {
             CardFans x = new CardFans();
             Model model = new Model();
-            // Some runs glimpse much and hide little, so that the watchers come to know the pack.
+            // In some runs much is glimpsed and little hidden, so that watchers come to know the pack.
             boolean isQuiet = run % 3 == 0;
-            for (int call = 0; call < CALLS / 2; call++) {
-                int what = isQuiet && draw(3) > 0 ? 6 : draw(KINDS_OF_CALLS);
-                int a = what == 6 || what == 7 || what == 8 || what == 9 ? number(4) : number(16);
-                int b = number(16);
-                int c = number(16);
-                boolean is = draw(isQuiet ? 12 : 2) > 0;
-                if (what == 0 && isQuiet && draw(2) == 0 || what < 3 || what == 17) {
-                    a = what == 1 ? a : number(5);
-                    b = a == 0 || a == 3 || draw(9) == 0 ? b : 0;
-                }
-                String name = "run " + run + ", call " + call + ": " + what + "(" + a + ", " + b + ", " + c + ", " + is + ")";
-                String want = answerOf(model, what, a, b, c, is);
-                String got = answerOf(x, what, a, b, c, is);
+            for (int n = 0; n < CALLS_OF_A_RUN; n++) {
+                Object[] call = isQuiet && draw(3) > 0 ? GLIMPSE : CALLS[draw(CALLS.length)];
+                Object[] arguments = arguments(call, isQuiet);
+                String want = answer(model, call, arguments);
+                String got = answer(x, call, arguments);
+                String name = "run " + run + ", call " + n + ": " + call[0] + java.util.Arrays.toString(arguments);
                 checks.that(name + " answered " + got + ", the model " + want, got.equals(want));
                 checks.due(name + ", the digest then", model.digest(), x.digest());
             }
@@ -34,72 +38,39 @@ public final class ModelTest {
         checks.end();
     }
 
+    private static Object[] arguments(Object[] call, boolean isQuiet) {
+        Object[] arguments = new Object[call.length - 1];
+        for (int k = 0; k < arguments.length; k++) {
+            boolean isFlag = typeOf(call, k) == boolean.class;
+            arguments[k] = isFlag ? (Object) (draw(isQuiet ? 12 : 2) > 0) : (Object) number((int) call[k + 1]);
+        }
+        return arguments;
+    }
+
+    private static Class<?> typeOf(Object[] call, int k) {
+        boolean isFlag = call[0].equals("go") && k == 2 || call[0].equals("watch");
+        return isFlag ? boolean.class : int.class;
+    }
+
+    private static String answer(Object asked, Object[] call, Object[] arguments) throws ReflectiveOperationException {
+        Class<?>[] types = new Class<?>[arguments.length];
+        for (int k = 0; k < types.length; k++) {
+            types[k] = typeOf(call, k);
+        }
+        Method method = asked.getClass().getDeclaredMethod((String) call[0], types);
+        try {
+            return "" + method.invoke(asked, arguments);
+        } catch (InvocationTargetException e) {
+            return e.getCause().getClass().getName();
+        }
+    }
+
     private static int draw(int bound) {
         drawn = drawn * 6364136223846793005L + 1442695040888963407L;
         return (int) ((drawn >>> 33) % bound);
     }
 
-    private static int number(int usual) {
-        return draw(25) == 0 ? WILD[draw(WILD.length)] : draw(usual);
-    }
-
-    private static String answerOf(CardFans x, int what, int a, int b, int c, boolean is) {
-        try {
-            switch (what) {
-                case 0: return "" + x.go(a, b, is);
-                case 1: return "" + x.falseCut(a);
-                case 2: return "" + x.comes(a, b, c);
-                case 3: return "" + x.card(a);
-                case 4: return "" + x.find(a);
-                case 5: return "" + x.watch(is);
-                case 6: return "" + x.glimpse(a, b);
-                case 7: return "" + x.thinks(a, b);
-                case 8: return "" + x.sure(a, b);
-                case 9: return "" + x.watcher(a, b % 8);
-                case 10: return "" + x.sit(a);
-                case 11: return "" + x.fan(a);
-                case 12: return "" + x.take(a % 5);
-                case 13: return "" + x.force(a % 5, b);
-                case 14: return "" + x.took(a % 5);
-                case 15: return "" + x.count(a % 9);
-                case 16: return "" + x.mean();
-                case 17: return "" + x.back(a, b);
-                case 18: return "" + x.bring(a, b);
-                case 19: return "" + x.riffles(a, b);
-                default: return "" + x.digest();
-            }
-        } catch (RuntimeException e) {
-            return e.getClass().getName();
-        }
-    }
-
-    private static String answerOf(Model x, int what, int a, int b, int c, boolean is) {
-        try {
-            switch (what) {
-                case 0: return "" + x.go(a, b, is);
-                case 1: return "" + x.falseCut(a);
-                case 2: return "" + x.comes(a, b, c);
-                case 3: return "" + x.card(a);
-                case 4: return "" + x.find(a);
-                case 5: return "" + x.watch(is);
-                case 6: return "" + x.glimpse(a, b);
-                case 7: return "" + x.thinks(a, b);
-                case 8: return "" + x.sure(a, b);
-                case 9: return "" + x.watcher(a, b % 8);
-                case 10: return "" + x.sit(a);
-                case 11: return "" + x.fan(a);
-                case 12: return "" + x.take(a % 5);
-                case 13: return "" + x.force(a % 5, b);
-                case 14: return "" + x.took(a % 5);
-                case 15: return "" + x.count(a % 9);
-                case 16: return "" + x.mean();
-                case 17: return "" + x.back(a, b);
-                case 18: return "" + x.bring(a, b);
-                case 19: return "" + x.riffles(a, b);
-                default: return "" + x.digest();
-            }
-        } catch (RuntimeException e) {
-            return e.getClass().getName();
-        }
+    private static int number(int bound) {
+        return draw(25) == 0 ? WILD[draw(WILD.length)] : draw(bound);
     }
 }

@@ -14,6 +14,7 @@ public final class WatchersTest {
         thinksAnewWhenTwicePlaced();
         thinksAnewWhenTheCardWasKnownElsewhere();
         thinksAnewAtTheLastPlace();
+        thinksAnewWhenTooFewCardsAreLeft();
         thinks();
         sure();
         watcher();
@@ -131,6 +132,48 @@ public final class WatchersTest {
             x.glimpse(0, place);
             checks.due("anew by the place " + place, 1, x.watcher(0, 4));
             checks.due("settled by the place " + place, 1, x.watcher(0, 2));
+        }
+    }
+
+    /**
+     * A place glimpsed ahead of a hidden cut and behind it loses its first card from all sets. So of the
+     * last three places two cards are thought, and a glimpse of one leaves one card for two places,
+     * which shows at once or only the next time round, by the numbers of the three.
+     */
+    private static void thinksAnewWhenTooFewCardsAreLeft() {
+        for (int twice = 0; twice < 16; twice++) {
+            for (int cut = 1; cut < 16; cut++) {
+                int lost = (twice - cut + 16) % 16;
+                for (int last = 0; last < 16; last++) {
+                    for (int unseen = 0; unseen < 16; unseen++) {
+                        boolean isTriple = last != unseen && last != lost && unseen != lost;
+                        if (isTriple && last != twice && unseen != twice) {
+                            tooFewCardsAreLeft(twice, cut, last, unseen);
+                        }
+                    }
+                }
+            }
+        }
+    }
+
+    private static void tooFewCardsAreLeft(int twice, int cut, int last, int unseen) {
+        CardFans x = new CardFans();
+        x.watch(true);
+        x.glimpse(0, twice);
+        x.go(0, cut, false);
+        for (int place = 0; place < 16; place++) {
+            if (place != last && place != unseen && x.card(place) != twice) {
+                x.glimpse(0, place);
+            }
+        }
+        String named = " by " + twice + ", " + cut + ", " + last + ", " + unseen;
+        checks.due("not yet anew" + named, 0, x.watcher(0, 4));
+        int seen = 1 << x.card(last);
+        checks.due("two cards are left" + named, seen | 1 << x.card(unseen), x.thinks(0, last));
+        x.glimpse(0, last);
+        checks.due("anew" + named, 1, x.watcher(0, 4));
+        for (int place = 0; place < 16; place++) {
+            checks.due("thinks(0, " + place + ")" + named, place == last ? seen : ALL - seen, x.thinks(0, place));
         }
     }
 
