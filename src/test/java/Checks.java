@@ -60,6 +60,10 @@ final class Checks {
         }
     }
 
+    boolean allWereDue() {
+        return asked > 0 && wrong == 0;
+    }
+
     void end() {
         System.out.println(test + ": " + asked + " answers asked, " + wrong + " wrong");
         if (wrong > 0) {

@@ -93,7 +93,7 @@ public final class WaysTest {
     }
 
     private static void goRefuses() {
-        CardFans x = busy();
+        CardFans x = Given.used();
         for (int[] no : NO_WAYS) {
             checks.refused("go(" + no[0] + ", " + no[1] + ", true)", ARGUMENT, x, () -> x.go(no[0], no[1], true));
             checks.refused("go(" + no[0] + ", " + no[1] + ", false)", ARGUMENT, x, () -> x.go(no[0], no[1], false));
@@ -121,7 +121,7 @@ public final class WaysTest {
     }
 
     private static void comes() {
-        CardFans x = busy();
+        CardFans x = Given.used();
         long before = x.digest();
         for (int kind = 0; kind < 5; kind++) {
             for (int number = 0; number <= 16; number++) {
@@ -144,7 +144,7 @@ public final class WaysTest {
     }
 
     private static void comesRefuses() {
-        CardFans x = busy();
+        CardFans x = Given.used();
         for (int[] no : NO_WAYS) {
             String call = "comes(" + no[0] + ", " + no[1] + ", ";
             checks.refused(call + "3)", ARGUMENT, x, () -> x.comes(no[0], no[1], 3));
@@ -159,7 +159,7 @@ public final class WaysTest {
     }
 
     private static void cardAndFind() {
-        CardFans x = busy();
+        CardFans x = Given.used();
         for (int k = 0; k < 16; k++) {
             checks.due("card(find(" + k + "))", k, x.card(x.find(k)));
         }
@@ -173,18 +173,5 @@ public final class WaysTest {
             checks.refused("card(" + no + ")", INDEX, x, () -> x.card(no));
             checks.refused("find(" + no + ")", INDEX, x, () -> x.find(no));
         }
-    }
-
-    private static CardFans busy() {
-        CardFans x = new CardFans();
-        x.watch(true);
-        x.watch(false);
-        x.go(2, 0, true);
-        x.glimpse(0, 4);
-        x.glimpse(1, 9);
-        x.go(3, 11, false);
-        x.sit(5);
-        x.take(0);
-        return x;
     }
 }
