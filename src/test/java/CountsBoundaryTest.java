@@ -197,6 +197,19 @@ public final class CountsBoundaryTest {
         backRefuses(checks, 3, Given.LARGEST);
     }
 
+    static void promise18_ofAllKindsAndNumbersNearbyJustTheWaysAreTold(Checks checks) {
+        for (int kind = -2; kind <= 6; kind++) {
+            for (int number = -17; number <= 33; number++) {
+                if (Given.isWay(kind, number)) {
+                    checks.due("back(" + kind + ", " + number + ")", timesByHand(kind, number),
+                        new CardFans().back(kind, number));
+                } else {
+                    backRefuses(checks, kind, number);
+                }
+            }
+        }
+    }
+
     static void promise18_cutBy1TheLeastIsBackAfter16(Checks checks) {
         checks.due("back(0, 1)", 16, new CardFans().back(0, 1));
     }
@@ -613,8 +626,18 @@ public final class CountsBoundaryTest {
         checks.refused("back(" + kind + ", " + number + ")", Given.ARGUMENT, x, () -> x.back(kind, number));
     }
 
+    private static int timesByHand(int kind, int number) {
+        CardFans x = new CardFans();
+        int times = 0;
+        do {
+            x.go(kind, number, false);
+            times++;
+        } while (x.count(6) < 16 && times < 500);
+        return times;
+    }
+
     private static void backRefusesNumbersBut0(Checks checks, int kind) {
-        for (int number : new int[] {-1, 1, 2, 8, 15, 16, Given.SMALLEST, Given.LARGEST}) {
+        for (int number : new int[] {-1, 1, 2, 8, 15, 16, 17, Given.SMALLEST, Given.LARGEST}) {
             backRefuses(checks, kind, number);
         }
     }

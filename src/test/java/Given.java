@@ -59,4 +59,15 @@ final class Given {
         }
         return x;
     }
+
+    /** As the document tells the ways: 1 to 15 for the kind 0, 2 to 16 for the kind 3, 0 for 1, 2 and 4. */
+    static boolean isWay(int kind, int number) {
+        if (kind == 0) {
+            return number >= 1 && number <= 15;
+        }
+        if (kind == 3) {
+            return number >= 2 && number <= 16;
+        }
+        return (kind == 1 || kind == 2 || kind == 4) && number == 0;
+    }
 }

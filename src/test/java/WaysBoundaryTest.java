@@ -127,6 +127,21 @@ public final class WaysBoundaryTest {
         goRefuses(checks, 3, Given.LARGEST);
     }
 
+    static void promise02_ofAllKindsAndNumbersNearbyJustTheWaysAreDone(Checks checks) {
+        for (int kind = -2; kind <= 6; kind++) {
+            for (int number = -17; number <= 33; number++) {
+                if (Given.isWay(kind, number)) {
+                    CardFans x = new CardFans();
+                    int top = x.go(kind, number, number % 2 == 0);
+                    checks.due("card(0) after go(" + kind + ", " + number + ", ..)", top, x.card(0));
+                    checks.due("count(0) after go(" + kind + ", " + number + ", ..)", 1, x.count(0));
+                } else {
+                    goRefuses(checks, kind, number);
+                }
+            }
+        }
+    }
+
     static void promise02_theCardAtTheTopIsThatOfThen(Checks checks) {
         CardFans x = new CardFans();
         checks.due("go(2, 0, false)", 8, x.go(2, 0, false));
@@ -184,6 +199,19 @@ public final class WaysBoundaryTest {
     static void promise03_byFarTooManyIsRefused(Checks checks) {
         falseCutRefuses(checks, 17);
         falseCutRefuses(checks, Given.LARGEST);
+    }
+
+    static void promise03_ofAllNumbersNearby1To15AreDone(Checks checks) {
+        for (int number = -17; number <= 33; number++) {
+            if (number >= 1 && number <= 15) {
+                CardFans x = Given.known(false);
+                checks.due("falseCut(" + number + ")", 1, x.falseCut(number));
+                checks.due("thinks(0, 0) after falseCut(" + number + ")", 1 << number, x.thinks(0, 0));
+                checks.due("thinks(0, 15) after falseCut(" + number + ")", 1 << number - 1, x.thinks(0, 15));
+            } else {
+                falseCutRefuses(checks, number);
+            }
+        }
     }
 
     static void promise03_withoutWatchersNoneIsLedAstray(Checks checks) {
@@ -323,6 +351,18 @@ public final class WaysBoundaryTest {
         comesRefusesWay(checks, 3, Given.LARGEST);
     }
 
+    static void promise04_ofAllKindsAndNumbersNearbyJustTheWaysAreTold(Checks checks) {
+        for (int kind = -2; kind <= 6; kind++) {
+            for (int number = -17; number <= 33; number++) {
+                if (Given.isWay(kind, number)) {
+                    comesAsGoBrings(checks, kind, number);
+                } else {
+                    comesRefusesWay(checks, kind, number);
+                }
+            }
+        }
+    }
+
     static void promise04_placeMinus1IsRefused(Checks checks) {
         comesRefusesPlace(checks, -1);
     }
@@ -436,7 +476,7 @@ public final class WaysBoundaryTest {
     }
 
     private static void goRefusesNumbersBut0(Checks checks, int kind) {
-        for (int number : new int[] {-1, 1, 2, 8, 15, 16, Given.SMALLEST, Given.LARGEST}) {
+        for (int number : new int[] {-1, 1, 2, 8, 15, 16, 17, Given.SMALLEST, Given.LARGEST}) {
             goRefuses(checks, kind, number);
         }
         CardFans x = Given.used();
@@ -456,8 +496,17 @@ public final class WaysBoundaryTest {
         checks.refused(call + "15)", Given.ARGUMENT, x, () -> x.comes(kind, number, 15));
     }
 
+    private static void comesAsGoBrings(Checks checks, int kind, int number) {
+        CardFans x = new CardFans();
+        x.go(kind, number, false);
+        for (int place = 0; place < 16; place++) {
+            String call = "comes(" + kind + ", " + number + ", " + place + ")";
+            checks.due(call, x.find(place), x.comes(kind, number, place));
+        }
+    }
+
     private static void comesRefusesNumbersBut0(Checks checks, int kind) {
-        for (int number : new int[] {-1, 1, 2, 8, 15, 16, Given.SMALLEST, Given.LARGEST}) {
+        for (int number : new int[] {-1, 1, 2, 8, 15, 16, 17, Given.SMALLEST, Given.LARGEST}) {
             comesRefusesWay(checks, kind, number);
         }
         int place = new CardFans().comes(kind, 0, 3);
